@@ -34,6 +34,10 @@ public final class CopiesTest {
             CHECK.due("copy(0)", rows.copy(0), i);
         }
         CHECK.due("the 61st", rows.copy(0), 0);
+        CHECK.due("priority(60, true)", rows.priority(60, true), false);
+        CHECK.due("priority(60, true) again", rows.priority(60, true), true);
+        CHECK.due("floats(60, true)", rows.floats(60, true), false);
+        CHECK.due("floats(60, true) again", rows.floats(60, true), true);
         CHECK.due("where(60, 0)", rows.where(60, 0), 0);
         CHECK.due("where(61, 0)", rows.where(61, 0), NONE);
     }

@@ -13,6 +13,7 @@ public final class LoadTest {
         onlyItsOwnRoute();
         missingFollowsTheStates();
         loadedAndMissingRefuse();
+        aHundredAndFiftyLoaded();
         aHundredTold();
         CHECK.end();
     }
@@ -146,8 +147,14 @@ public final class LoadTest {
         rows.arrive(2, 1, 51);
         rows.arrive(3, 0, 51);
         CHECK.dueMissing(rows, 1);
+        rows.send(1, 0, 51);
+        rows.send(3, 1, 51);
+        rows.load(0, 52);
         CHECK.dueLoaded(rows, 1, 4, 1, 2, 3);
         CHECK.dueLoaded(rows, 2, 5);
+        CHECK.dueLoaded(rows, 3, 6);
+        CHECK.dueMissing(rows, 2, 5);
+        CHECK.dueMissing(rows, 3, 6);
     }
 
     private static void loadedAndMissingRefuse() {
@@ -164,6 +171,33 @@ public final class LoadTest {
         }
         CHECK.due("loaded(1, 0)", rows.loaded(1, 0), 1);
         CHECK.due("missing(1, 0)", rows.missing(1, 0), 1);
+    }
+
+    private static void aHundredAndFiftyLoaded() {
+        TransitRows rows = Worlds.withRoute(0, 99, 60);
+        for (int slip = 1; slip <= 150; slip++) {
+            int day = (slip - 1) / 60;
+            CHECK.due("send", rows.send((slip - 1) % 60 + 1, 1, day), slip);
+            if (slip % 60 == 0) {
+                rows.load(0, day + 1);
+                comeBack(rows, slip - 59, slip, day + 1);
+            }
+        }
+        CHECK.due("the third load", rows.load(0, 3), 3);
+        CHECK.due("loaded(2, 59)", rows.loaded(2, 59), 120);
+        CHECK.due("loaded(2, 60)", rows.loaded(2, 60), 0);
+        CHECK.due("loaded(3, 29)", rows.loaded(3, 29), 150);
+        CHECK.due("loaded(3, 30)", rows.loaded(3, 30), 0);
+        CHECK.due("missing(3, 29)", rows.missing(3, 29), 150);
+        CHECK.due("missing(3, 30)", rows.missing(3, 30), 0);
+        CHECK.due("lost(99999)", rows.lost(99999), 30);
+    }
+
+    /** They come to the wrong place, where they were sent from, so that they can be sent again. */
+    private static void comeBack(TransitRows rows, int first, int last, int day) {
+        for (int slip = first; slip <= last; slip++) {
+            CHECK.due("arrive", rows.arrive(slip, 0, day), -1);
+        }
     }
 
     private static void aHundredTold() {

@@ -50,6 +50,9 @@ public final class RoutesTest {
         CHECK.due("the 41st route", rows.route(0, 1, 127, 0, 1), NONE);
         CHECK.due("a load of the last", rows.load(39, 0), 1);
         CHECK.due("a load of one too many", rows.load(40, 0), 0);
+        rows.copy(1);
+        CHECK.due("send", rows.send(1, 0, 0), 1);
+        CHECK.due("by the least number of twenty", rows.slip(1, 1), 1);
     }
 
     private static void skipTellsWhetherItChanges() {
