@@ -1,35 +1,51 @@
-/** Promises 10 and 11. */
+/** Promise 11. */
 public final class BinTest {
     private static final Check CHECK = new Check();
 
     public static void main(String[] args) {
-        theOrder();
-        byWhateverRoute();
+        fromZeroOn();
+        noneSuch();
+        anEmptyBin();
         onlyWaiting();
-        backTakesOut();
-        backRefuses();
+        byWhateverRoute();
+        placesThatAreNone();
+        theFirstAndTheLastPlace();
+        askingChangesNothing();
         CHECK.end();
     }
 
-    private static void theOrder() {
-        TransitRows rows = Worlds.withRoute(0, 9, 5);
-        rows.send(3, 1, 8);
-        rows.send(1, 1, 4);
-        rows.send(2, 1, 8);
-        rows.send(5, 1, 4);
-        rows.send(4, 1, 9);
-        CHECK.dueBin(rows, 0, 1, 2, 4, 1, 3, 5);
-        rows.priority(4, true);
-        CHECK.dueBin(rows, 0, 1, 5, 2, 4, 1, 3);
-        rows.priority(2, true);
-        CHECK.dueBin(rows, 0, 1, 3, 5, 2, 4, 1);
-        rows.priority(4, false);
-        CHECK.dueBin(rows, 0, 1, 3, 2, 4, 1, 5);
-        CHECK.due("bin(0, 1, -1)", rows.bin(0, 1, -1), 0);
-        CHECK.due("bin(0, 1, max)", rows.bin(0, 1, Integer.MAX_VALUE), 0);
-        CHECK.due("bin(0, 1, min)", rows.bin(0, 1, Integer.MIN_VALUE), 0);
+    /** "The i-th WAITING slip, from 0 on" */
+    private static void fromZeroOn() {
+        TransitRows rows = Worlds.withWaiting(9, 3);
+        CHECK.due("bin(0, 1, 0)", rows.bin(0, 1, 0), 1);
+        CHECK.due("bin(0, 1, 1)", rows.bin(0, 1, 1), 2);
+        CHECK.due("bin(0, 1, 2)", rows.bin(0, 1, 2), 3);
     }
 
+    /** "0 if there is none such" */
+    private static void noneSuch() {
+        for (int many : new int[] {1, 3, 60}) {
+            TransitRows rows = Worlds.withWaiting(9, many);
+            CHECK.dueEach("bin(0, 1, #)", 0, n -> rows.bin(0, 1, n), Numbers.beyond(0, many - 1));
+            CHECK.due("the last", rows.bin(0, 1, many - 1), many);
+        }
+    }
+
+    private static void anEmptyBin() {
+        TransitRows rows = Worlds.withRoute(0, 9, 1);
+        CHECK.dueEach("bin(0, 1, #)", 0, n -> rows.bin(0, 1, n), Numbers.beyond(0, 0));
+        CHECK.due("bin(0, 1, 0)", rows.bin(0, 1, 0), 0);
+    }
+
+    private static void onlyWaiting() {
+        TransitRows rows = Worlds.withEveryState();
+        CHECK.dueBin(rows, 0, 1, Worlds.WAITING);
+        CHECK.dueBin(rows, 0, 2);
+        rows.load(0, 100);
+        CHECK.dueBin(rows, 0, 1);
+    }
+
+    /** "from a place to another one, by whatever route" */
     private static void byWhateverRoute() {
         TransitRows rows = Worlds.withPlaces(3);
         rows.route(0, 1, 1 << 6, 0, 9);
@@ -37,7 +53,7 @@ public final class BinTest {
         rows.route(0, 2, 127, 0, 9);
         rows.route(1, 0, 127, 0, 9);
         Worlds.addCopies(rows, 0, 3);
-        Worlds.addCopies(rows, 1, 1);
+        rows.copy(1);
         rows.send(1, 1, 5);
         rows.send(2, 1, 1);
         rows.send(3, 2, 0);
@@ -46,63 +62,39 @@ public final class BinTest {
         CHECK.dueBin(rows, 0, 2, 3);
         CHECK.dueBin(rows, 1, 0, 4);
         CHECK.dueBin(rows, 1, 2);
-        CHECK.dueBin(rows, 0, 0);
-        CHECK.dueBin(rows, -1, 0);
-        CHECK.dueBin(rows, 0, 3);
-        CHECK.dueBin(rows, 12, Integer.MIN_VALUE);
+        CHECK.dueBin(rows, 2, 1);
     }
 
-    private static void onlyWaiting() {
-        TransitRows rows = Worlds.withRoute(0, 1, 4);
-        for (int copy = 1; copy <= 4; copy++) {
-            rows.send(copy, 1, copy);
-        }
-        rows.load(0, 2);
-        CHECK.dueBin(rows, 0, 1, 2, 3, 4);
-        rows.load(0, 3);
-        rows.lost(40);
-        CHECK.dueBin(rows, 0, 1, 3, 4);
-        rows.arrive(1, 1, 40);
-        rows.arrive(2, 0, 40);
-        rows.back(3);
-        CHECK.dueBin(rows, 0, 1, 4);
+    private static void placesThatAreNone() {
+        TransitRows rows = Worlds.withWaiting(9, 2);
+        CHECK.dueEach("bin(#, 1, 0)", 0, n -> rows.bin(n, 1, 0), Numbers.beyond(0, 1));
+        CHECK.dueEach("bin(0, #, 0)", 0, n -> rows.bin(0, n, 0), Numbers.beyond(0, 1));
+        CHECK.dueEach("bin(#, #, 0)", 0, n -> rows.bin(n, n, 0), Numbers.beyond(0, 1));
+        CHECK.dueEach("bin(#, #, 0): no other one", 0, n -> rows.bin(n, n, 0), 0, 1);
+        CHECK.dueEach("bin(#, 1, -1)", 0, n -> rows.bin(n, 1, -1), Numbers.beyond(0, 1));
     }
 
-    private static void backTakesOut() {
-        TransitRows rows = Worlds.withRoute(0, 9, 2);
-        rows.send(1, 1, 0);
-        rows.send(2, 1, 0);
-        CHECK.due("back(1)", rows.back(1), 1);
-        CHECK.due("its state", rows.slip(1, 2), 5);
-        CHECK.due("the copy stands where it was", rows.where(1, 0), 0);
-        CHECK.due("it has no slip", rows.where(1, 2), 0);
-        CHECK.dueBin(rows, 0, 1, 2);
-        CHECK.due("load", rows.load(0, 1), 1);
-        CHECK.dueLoaded(rows, 1, 2);
-        CHECK.due("it can be sent again", rows.send(1, 1, 5), 3);
+    private static void theFirstAndTheLastPlace() {
+        TransitRows rows = Worlds.withPlaces(12);
+        rows.route(0, 11, 127, 0, 9);
+        rows.route(11, 0, 127, 0, 9);
+        rows.copy(0);
+        rows.copy(11);
+        rows.send(1, 11, 0);
+        rows.send(2, 0, 0);
+        CHECK.dueBin(rows, 0, 11, 1);
+        CHECK.dueBin(rows, 11, 0, 2);
+        CHECK.dueEach("bin(#, 0, 0)", 0, n -> rows.bin(n, 0, 0), Numbers.beyond(0, 11));
+        CHECK.dueEach("bin(0, #, 0)", 0, n -> rows.bin(0, n, 0), Numbers.beyond(0, 11));
     }
 
-    private static void backRefuses() {
-        TransitRows rows = Worlds.withRoute(0, 9, 2);
-        rows.send(1, 1, 0);
-        CHECK.due("back(0)", rows.back(0), 0);
-        CHECK.due("back(2)", rows.back(2), 0);
-        CHECK.due("back(-1)", rows.back(-1), 0);
-        CHECK.due("back(max)", rows.back(Integer.MAX_VALUE), 0);
+    private static void askingChangesNothing() {
+        TransitRows rows = Worlds.withWaiting(9, 3);
+        rows.priority(2, true);
+        CHECK.dueBin(rows, 0, 1, 2, 1, 3);
+        CHECK.dueBin(rows, 0, 1, 2, 1, 3);
         rows.load(0, 1);
-        CHECK.due("back of a LOADED one", rows.back(1), 0);
-        CHECK.due("it is LOADED still", rows.slip(1, 2), 1);
-        rows.lost(50);
-        CHECK.due("back of a LOST one", rows.back(1), 0);
-        rows.arrive(1, 1, 50);
-        CHECK.due("back of an ARRIVED one", rows.back(1), 0);
-        rows.send(2, 1, 60);
-        CHECK.due("back of a WAITING one", rows.back(2), 1);
-        CHECK.due("back of a BACK one", rows.back(2), 0);
-        rows.send(2, 1, 60);
-        rows.load(0, 70);
-        rows.arrive(3, 0, 70);
-        CHECK.due("back of a WRONG one", rows.back(3), 0);
-        CHECK.due("it is WRONG still", rows.slip(3, 2), 4);
+        rows.bin(0, 1, 0);
+        CHECK.dueLoaded(rows, 1, 2, 1, 3);
     }
 }

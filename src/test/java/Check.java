@@ -1,3 +1,6 @@
+import java.util.function.IntPredicate;
+import java.util.function.IntUnaryOperator;
+
 /** Compares answers with those that are due, prints each that is not, and ends with exit code 1 if there was one. */
 final class Check {
     private int wrong = 0;
@@ -18,6 +21,45 @@ final class Check {
         if (!got.equals(want)) {
             tell(call, got, want);
         }
+    }
+
+    /** One answer for each of some numbers; the # in the call's text stands for the number. */
+    void dueEach(String call, int want, IntUnaryOperator got, int... numbers) {
+        for (int number : numbers) {
+            due(call.replace("#", String.valueOf(number)), got.applyAsInt(number), want);
+        }
+    }
+
+    void dueEach(String call, boolean want, IntPredicate got, int... numbers) {
+        for (int number : numbers) {
+            due(call.replace("#", String.valueOf(number)), got.test(number), want);
+        }
+    }
+
+    /** An ArithmeticException by a throw statement: that of a division by zero would be the machine's own. */
+    void dueThrow(String call, Runnable made) {
+        String got = "nothing";
+        try {
+            made.run();
+        } catch (RuntimeException thrown) {
+            boolean byMachine = "/ by zero".equals(thrown.getMessage());
+            got = thrown.getClass().getSimpleName() + (byMachine ? " of the machine" : "");
+        }
+        dueText(call + " throws", got, "ArithmeticException");
+    }
+
+    /** All that slip tells of a slip, from what 0 on. */
+    void dueSlip(TransitRows rows, int slip, int... want) {
+        for (int what = 0; what < want.length; what++) {
+            due("slip(" + slip + ", " + what + ")", rows.slip(slip, what), want[what]);
+        }
+    }
+
+    /** All that where tells of a copy. */
+    void dueWhere(TransitRows rows, int copy, int stands, int home, int slip) {
+        due("where(" + copy + ", 0)", rows.where(copy, 0), stands);
+        due("where(" + copy + ", 1)", rows.where(copy, 1), home);
+        due("where(" + copy + ", 2)", rows.where(copy, 2), slip);
     }
 
     /** The answers of bin(from, to, 0), bin(from, to, 1) .. and, behind them, that there is no more. */

@@ -1,117 +1,215 @@
-/** Promises 12, 13, 14 and 20. */
+/** Promise 12, and of the terms: LOADS. */
 public final class LoadTest {
     private static final Check CHECK = new Check();
-    private static final int NONE = TransitRows.NONE;
+    private static final int LAST_DAY = Numbers.LAST_DAY;
 
     public static void main(String[] args) {
-        daysOfALoad();
-        loadRefuses();
+        noSuchRoute();
+        noSuchDay();
+        theFirstAndTheLastDay();
+        itDoesNotRun();
+        onThatDayOrALaterOne();
+        ofThatRouteAlone();
+        alsoIfNothingIsLoaded();
+        whoseDayToGoIsNotBehindIt();
+        theirDayToGoIsThatDayNow();
+        asManyAsThereIsRoom();
+        theGreatestRoom();
+        theEndIsClosed();
+        theEndIsClosedAndRoomIsLittle();
+        theBeginningIsClosed();
+        ofItsOwnSlips();
+        onlyWaiting();
         sixtyLoads();
-        whoIsDue();
-        littleRoom();
-        aClosedEnd();
-        onlyItsOwnRoute();
-        missingFollowsTheStates();
-        loadedAndMissingRefuse();
-        aHundredAndFiftyLoaded();
-        aHundredTold();
+        aRefusedOneIsNoLoad();
         CHECK.end();
     }
 
-    private static void daysOfALoad() {
-        TransitRows rows = Worlds.withPlaces(2);
-        rows.route(0, 1, 1 << 2, 0, 1);
-        rows.route(0, 1, 127, 0, 1);
-        CHECK.due("the mask has it not", rows.load(0, 1), 0);
-        CHECK.due("the mask has it, nothing is LOADED", rows.load(0, 9), 1);
-        CHECK.due("on that day", rows.load(0, 9), 0);
-        CHECK.due("before that day", rows.load(0, 2), 0);
-        CHECK.due("another route before that day", rows.load(1, 0), 2);
-        CHECK.due("on a later day", rows.load(0, 16), 3);
-        CHECK.due("the last day", rows.load(1, 99999), 4);
-    }
-
-    private static void loadRefuses() {
-        TransitRows rows = Worlds.withRoute(0, 1, 1);
-        rows.send(1, 1, 0);
-        CHECK.due("route -1", rows.load(-1, 5), 0);
-        CHECK.due("route 1", rows.load(1, 5), 0);
-        CHECK.due("route max", rows.load(Integer.MAX_VALUE, 5), 0);
-        CHECK.due("day -1", rows.load(0, -1), 0);
-        CHECK.due("day -7", rows.load(0, -7), 0);
-        CHECK.due("day 100000", rows.load(0, 100000), 0);
-        CHECK.due("day min", rows.load(0, Integer.MIN_VALUE), 0);
-        rows.skip(0, 5, true);
-        CHECK.due("a day left out", rows.load(0, 5), 0);
-        CHECK.due("WAITING still", rows.slip(1, 2), 0);
-        CHECK.due("a refused one counts not as a load", rows.load(0, 1), 1);
-    }
-
-    private static void sixtyLoads() {
-        TransitRows rows = Worlds.withRoute(0, 1, 1);
-        for (int i = 1; i <= 60; i++) {
-            CHECK.due("load", rows.load(0, i), i);
+    /** "0 if there is no such route" */
+    private static void noSuchRoute() {
+        for (int many : new int[] {0, 1, 40}) {
+            TransitRows rows = Worlds.withPlaces(2);
+            for (int i = 0; i < many; i++) {
+                rows.route(0, 1, 127, 0, 1);
+            }
+            CHECK.dueEach("load(#, 5)", 0, n -> rows.load(n, 5), Numbers.beyond(0, many - 1));
+            CHECK.due("there is no load", rows.loaded(1, 0), 0);
+            CHECK.due("the last route", rows.load(many - 1, 5), many == 0 ? 0 : 1);
         }
-        rows.send(1, 1, 60);
-        CHECK.due("the 61st", rows.load(0, 61), 0);
-        CHECK.due("nothing is LOADED", rows.slip(1, 2), 0);
     }
 
-    private static void whoIsDue() {
+    /** "0 if there is no such .. day" */
+    private static void noSuchDay() {
+        TransitRows rows = Worlds.withWaiting(9, 1);
+        CHECK.dueEach("load(0, #)", 0, n -> rows.load(0, n), Numbers.NO_DAYS);
+        CHECK.dueEach("load(0, #)", 0, n -> rows.load(0, n), -7, Numbers.LEAST + 1, LAST_DAY + 7);
+        CHECK.due("WAITING still", rows.slip(1, 2), 0);
+        CHECK.due("the least day is free still", rows.load(0, 0), 1);
+    }
+
+    private static void theFirstAndTheLastDay() {
+        TransitRows rows = Worlds.withWaiting(9, 1);
+        CHECK.due("the first day", rows.load(0, 0), 1);
+        CHECK.due("the last day", rows.load(0, LAST_DAY), 2);
+        CHECK.dueLoaded(rows, 1);
+        CHECK.dueLoaded(rows, 2, 1);
+        CHECK.due("the last day once more", rows.load(0, LAST_DAY), 0);
+        CHECK.due("no day is behind it", rows.load(0, LAST_DAY + 1), 0);
+    }
+
+    /** "the route does not RUN" */
+    private static void itDoesNotRun() {
+        TransitRows rows = Worlds.withMask(1 << 2);
+        rows.copy(0);
+        rows.send(1, 1, 0);
+        CHECK.due("the day before", rows.load(0, 8), 0);
+        rows.skip(0, 9, true);
+        CHECK.due("a day left out", rows.load(0, 9), 0);
+        CHECK.due("the day behind", rows.load(0, 10), 0);
+        CHECK.due("WAITING still", rows.slip(1, 2), 0);
+        CHECK.due("its day to go stays", rows.slip(1, 4), 2);
+        rows.skip(0, 9, false);
+        CHECK.due("it runs again", rows.load(0, 9), 1);
+        CHECK.dueLoaded(rows, 1, 1);
+    }
+
+    /** "it had a load on that day or a later one" */
+    private static void onThatDayOrALaterOne() {
+        TransitRows rows = Worlds.withWaiting(1, 3);
+        CHECK.due("load(0, 9)", rows.load(0, 9), 1);
+        CHECK.due("on that day", rows.load(0, 9), 0);
+        CHECK.due("the day before", rows.load(0, 8), 0);
+        CHECK.due("the first day", rows.load(0, 0), 0);
+        CHECK.due("WAITING still", rows.slip(2, 2), 0);
+        CHECK.dueTold(rows, 2, 2, 2, 3);
+        CHECK.due("the day behind", rows.load(0, 10), 2);
+        CHECK.due("between them", rows.load(0, 9), 0);
+        CHECK.dueLoaded(rows, 1, 1);
+        CHECK.dueLoaded(rows, 2, 2);
+    }
+
+    /** "it had a load": not another route */
+    private static void ofThatRouteAlone() {
+        TransitRows rows = Worlds.withPlaces(2);
+        rows.route(0, 1, 127, 0, 1);
+        rows.route(0, 1, 127, 0, 1);
+        CHECK.due("route 0", rows.load(0, 9), 1);
+        CHECK.due("route 1 on that day", rows.load(1, 9), 2);
+        CHECK.due("route 1 before that day", rows.load(1, 8), 0);
+        CHECK.due("route 1 on a later day", rows.load(1, 50), 3);
+        CHECK.due("route 0 before that one", rows.load(0, 10), 4);
+    }
+
+    /** "its number (also if nothing is LOADED)" */
+    private static void alsoIfNothingIsLoaded() {
+        TransitRows rows = Worlds.withWaiting(9, 1);
+        CHECK.due("none is due", rows.load(0, 0), 1);
+        CHECK.dueLoaded(rows, 1);
+        CHECK.dueMissing(rows, 1);
+        CHECK.dueTold(rows);
+        rows.back(1);
+        CHECK.due("none is WAITING", rows.load(0, 1), 2);
+        CHECK.dueLoaded(rows, 2);
+        CHECK.due("that day had its load", rows.load(0, 1), 0);
+    }
+
+    /** "those of its WAITING slips whose DAY TO GO is not behind it" */
+    private static void whoseDayToGoIsNotBehindIt() {
         TransitRows rows = Worlds.withRoute(3, 9, 3);
-        rows.send(1, 1, 9);
-        rows.send(2, 1, 5);
+        rows.send(1, 1, 8);
+        rows.send(2, 1, 9);
         rows.send(3, 1, 10);
         CHECK.due("load", rows.load(0, 10), 1);
-        CHECK.dueLoaded(rows, 1, 2, 1);
-        CHECK.due("LOADED", rows.slip(2, 2), 1);
-        CHECK.due("its day to go is the load's", rows.slip(2, 4), 10);
-        CHECK.due("it comes by that", rows.slip(2, 5), 13);
-        CHECK.due("not due: WAITING", rows.slip(3, 2), 0);
-        CHECK.due("not due: its day to go", rows.slip(3, 4), 11);
+        CHECK.dueLoaded(rows, 1, 1, 2);
+        CHECK.dueSlip(rows, 3, 3, 0, 0, 10, 11, 14);
         CHECK.dueTold(rows);
     }
 
-    private static void littleRoom() {
-        TransitRows rows = Worlds.withRoute(0, 2, 5);
-        for (int copy = 1; copy <= 5; copy++) {
-            rows.send(copy, 1, 6 - copy);
-        }
-        rows.priority(1, true);
-        CHECK.due("load", rows.load(0, 8), 1);
-        CHECK.dueLoaded(rows, 1, 1, 5);
-        CHECK.dueTold(rows, 2, 4, 2, 3, 2, 2);
-        CHECK.due("WAITING still", rows.slip(4, 2), 0);
-        CHECK.due("its day to go as before", rows.slip(4, 4), 3);
-        CHECK.due("load", rows.load(0, 9), 2);
-        CHECK.dueLoaded(rows, 2, 4, 3);
-        CHECK.dueLoaded(rows, 1, 1, 5);
-        CHECK.dueTold(rows, 2, 4, 2, 3, 2, 2, 2, 2);
-        CHECK.due("load", rows.load(0, 10), 3);
-        CHECK.dueLoaded(rows, 3, 2);
-        CHECK.dueTold(rows, 2, 4, 2, 3, 2, 2, 2, 2);
+    /** "are LOADED (their DAY TO GO is that day now)" */
+    private static void theirDayToGoIsThatDayNow() {
+        TransitRows rows = Worlds.withRoute(3, 1, 2);
+        rows.send(1, 1, 4);
+        rows.send(2, 1, 5);
+        rows.load(0, 10);
+        CHECK.dueSlip(rows, 1, 1, 0, 1, 4, 10, 13);
+        CHECK.dueSlip(rows, 2, 2, 0, 0, 5, 6, 9);
     }
 
-    private static void aClosedEnd() {
-        TransitRows rows = Worlds.withRoute(0, 1, 3);
+    /** "as many as there is ROOM"; "those for which there is no ROOM are TOLD as 2" */
+    private static void asManyAsThereIsRoom() {
+        TransitRows less = Worlds.withWaiting(3, 2);
+        CHECK.due("two in a room for three", less.load(0, 1), 1);
+        CHECK.dueLoaded(less, 1, 1, 2);
+        CHECK.dueTold(less);
+        TransitRows even = Worlds.withWaiting(3, 3);
+        CHECK.due("three in a room for three", even.load(0, 1), 1);
+        CHECK.dueLoaded(even, 1, 1, 2, 3);
+        CHECK.dueTold(even);
+        TransitRows more = Worlds.withWaiting(3, 4);
+        CHECK.due("four for a room for three", more.load(0, 1), 1);
+        CHECK.dueLoaded(more, 1, 1, 2, 3);
+        CHECK.dueTold(more, 2, 4);
+        CHECK.dueSlip(more, 4, 4, 0, 0, 0, 1, 1);
+        CHECK.due("there is room for it in the next", more.load(0, 2), 2);
+        CHECK.dueLoaded(more, 2, 4);
+        CHECK.dueTold(more, 2, 4);
+    }
+
+    /** "ROOM for copies, 1 .. 99" */
+    private static void theGreatestRoom() {
+        TransitRows least = Worlds.withWaiting(1, 3);
+        least.load(0, 1);
+        CHECK.dueLoaded(least, 1, 1);
+        CHECK.dueTold(least, 2, 2, 2, 3);
+        TransitRows almost = Worlds.withWaiting(59, 60);
+        almost.load(0, 1);
+        CHECK.dueLoaded(almost, 1, Numbers.fromTo(1, 59));
+        CHECK.dueTold(almost, 2, 60);
+        TransitRows greatest = Worlds.withWaiting(99, 60);
+        greatest.load(0, 1);
+        CHECK.dueLoaded(greatest, 1, Numbers.fromTo(1, 60));
+        CHECK.dueTold(greatest);
+    }
+
+    /** "If the route's end is closed none is, and each of them is TOLD as 1" */
+    private static void theEndIsClosed() {
+        TransitRows rows = Worlds.withRoute(0, 9, 3);
         rows.send(1, 1, 3);
         rows.send(2, 1, 2);
-        rows.send(3, 1, 8);
+        rows.send(3, 1, 5);
         rows.open(1, false);
         CHECK.due("load", rows.load(0, 5), 1);
         CHECK.dueLoaded(rows, 1);
         CHECK.dueTold(rows, 1, 2, 1, 1);
-        CHECK.due("WAITING still", rows.slip(2, 2), 0);
-        CHECK.due("its day to go as before", rows.slip(2, 4), 3);
-        CHECK.due("the day has had its load", rows.load(0, 5), 0);
+        CHECK.dueSlip(rows, 2, 2, 0, 0, 2, 3, 3);
+        CHECK.due("that day had its load", rows.load(0, 5), 0);
         rows.open(1, true);
-        rows.open(0, false);
-        CHECK.due("a closed beginning", rows.load(0, 6), 2);
-        CHECK.dueLoaded(rows, 2, 2);
-        CHECK.dueTold(rows, 1, 2, 1, 1, 2, 1);
+        CHECK.due("open again", rows.load(0, 6), 2);
+        CHECK.dueLoaded(rows, 2, 2, 1, 3);
+        CHECK.dueTold(rows, 1, 2, 1, 1);
     }
 
-    private static void onlyItsOwnRoute() {
+    /** As none is LOADED, those beyond the ROOM are of "each of them" too. */
+    private static void theEndIsClosedAndRoomIsLittle() {
+        TransitRows rows = Worlds.withWaiting(1, 3);
+        rows.open(1, false);
+        rows.load(0, 1);
+        CHECK.dueTold(rows, 1, 1, 1, 2, 1, 3);
+        rows.open(1, true);
+        rows.load(0, 2);
+        CHECK.dueLoaded(rows, 2, 1);
+        CHECK.dueTold(rows, 1, 1, 1, 2, 1, 3, 2, 2, 2, 3);
+    }
+
+    private static void theBeginningIsClosed() {
+        TransitRows rows = Worlds.withWaiting(1, 2);
+        rows.open(0, false);
+        CHECK.due("load", rows.load(0, 1), 1);
+        CHECK.dueLoaded(rows, 1, 1);
+        CHECK.dueTold(rows, 2, 2);
+    }
+
+    private static void ofItsOwnSlips() {
         TransitRows rows = Worlds.withPlaces(2);
         rows.route(0, 1, 1, 0, 9);
         rows.route(0, 1, 127, 9, 9);
@@ -127,104 +225,38 @@ public final class LoadTest {
         CHECK.dueBin(rows, 0, 1, 1);
     }
 
-    private static void missingFollowsTheStates() {
-        TransitRows rows = Worlds.withRoute(0, 9, 5);
-        rows.priority(4, true);
-        for (int copy = 1; copy <= 4; copy++) {
-            rows.send(copy, 1, 0);
-        }
-        rows.load(0, 1);
-        rows.send(5, 1, 1);
-        rows.load(0, 2);
-        CHECK.dueMissing(rows, 1, 4, 1, 2, 3);
-        rows.arrive(1, 1, 2);
-        CHECK.dueMissing(rows, 1, 4, 2, 3);
-        rows.arrive(4, 0, 2);
-        CHECK.dueMissing(rows, 1, 2, 3);
-        rows.lost(50);
-        CHECK.dueMissing(rows, 1, 2, 3);
-        CHECK.dueMissing(rows, 2, 5);
-        rows.arrive(2, 1, 51);
-        rows.arrive(3, 0, 51);
-        CHECK.dueMissing(rows, 1);
-        rows.send(1, 0, 51);
-        rows.send(3, 1, 51);
-        rows.load(0, 52);
-        CHECK.dueLoaded(rows, 1, 4, 1, 2, 3);
-        CHECK.dueLoaded(rows, 2, 5);
-        CHECK.dueLoaded(rows, 3, 6);
-        CHECK.dueMissing(rows, 2, 5);
-        CHECK.dueMissing(rows, 3, 6);
+    private static void onlyWaiting() {
+        TransitRows rows = Worlds.withEveryState();
+        rows.load(0, 100);
+        CHECK.dueLoaded(rows, 3, Worlds.WAITING);
+        CHECK.dueLoaded(rows, 2, Worlds.LOADED);
+        CHECK.due("LOADED stays as it was", rows.slip(Worlds.LOADED, 4), 50);
     }
 
-    private static void loadedAndMissingRefuse() {
-        TransitRows rows = Worlds.withRoute(0, 9, 1);
-        rows.send(1, 1, 0);
-        rows.load(0, 1);
-        for (int load : new int[] {0, 2, -1, 61, Integer.MAX_VALUE, Integer.MIN_VALUE}) {
-            CHECK.due("loaded(" + load + ", 0)", rows.loaded(load, 0), 0);
-            CHECK.due("missing(" + load + ", 0)", rows.missing(load, 0), 0);
+    /** "LOADS are 1 .. 60, as they come"; "0 if .. there are 60" */
+    private static void sixtyLoads() {
+        TransitRows rows = Worlds.withWaiting(1, 1);
+        rows.route(1, 0, 127, 0, 1);
+        for (int i = 1; i <= 59; i++) {
+            CHECK.due("load", rows.load(1, i), i);
         }
-        for (int i : new int[] {-1, 1, Integer.MAX_VALUE, Integer.MIN_VALUE}) {
-            CHECK.due("loaded(1, " + i + ")", rows.loaded(1, i), 0);
-            CHECK.due("missing(1, " + i + ")", rows.missing(1, i), 0);
-        }
-        CHECK.due("loaded(1, 0)", rows.loaded(1, 0), 1);
-        CHECK.due("missing(1, 0)", rows.missing(1, 0), 1);
+        rows.copy(1);
+        rows.send(2, 0, 59);
+        CHECK.due("the 60th", rows.load(1, 60), 60);
+        CHECK.dueLoaded(rows, 60, 2);
+        CHECK.due("the 61st", rows.load(1, 61), 0);
+        CHECK.due("the 61st, of another route", rows.load(0, 61), 0);
+        CHECK.due("nothing is LOADED", rows.slip(1, 2), 0);
+        CHECK.due("nothing is TOLD", rows.told(0, 0), TransitRows.NONE);
     }
 
-    private static void aHundredAndFiftyLoaded() {
-        TransitRows rows = Worlds.withRoute(0, 99, 60);
-        for (int slip = 1; slip <= 150; slip++) {
-            int day = (slip - 1) / 60;
-            CHECK.due("send", rows.send((slip - 1) % 60 + 1, 1, day), slip);
-            if (slip % 60 == 0) {
-                rows.load(0, day + 1);
-                comeBack(rows, slip - 59, slip, day + 1);
-            }
-        }
-        CHECK.due("the third load", rows.load(0, 3), 3);
-        CHECK.due("loaded(2, 59)", rows.loaded(2, 59), 120);
-        CHECK.due("loaded(2, 60)", rows.loaded(2, 60), 0);
-        CHECK.due("loaded(3, 29)", rows.loaded(3, 29), 150);
-        CHECK.due("loaded(3, 30)", rows.loaded(3, 30), 0);
-        CHECK.due("missing(3, 29)", rows.missing(3, 29), 150);
-        CHECK.due("missing(3, 30)", rows.missing(3, 30), 0);
-        CHECK.due("lost(99999)", rows.lost(99999), 30);
-    }
-
-    /** They come to the wrong place, where they were sent from, so that they can be sent again. */
-    private static void comeBack(TransitRows rows, int first, int last, int day) {
-        for (int slip = first; slip <= last; slip++) {
-            CHECK.due("arrive", rows.arrive(slip, 0, day), -1);
-        }
-    }
-
-    private static void aHundredTold() {
-        TransitRows rows = Worlds.withRoute(0, 10, 60);
-        for (int copy = 1; copy <= 60; copy++) {
-            rows.send(copy, 1, 0);
-        }
-        rows.load(0, 1);
-        rows.open(1, false);
-        rows.load(0, 2);
-        CHECK.due("told(49, 0)", rows.told(49, 0), 2);
-        CHECK.due("told(49, 1)", rows.told(49, 1), 60);
-        CHECK.due("told(50, 0)", rows.told(50, 0), 1);
-        CHECK.due("told(50, 1)", rows.told(50, 1), 11);
-        CHECK.due("told(99, 0)", rows.told(99, 0), 1);
-        CHECK.due("told(99, 1)", rows.told(99, 1), 60);
-        CHECK.due("told(100, 0)", rows.told(100, 0), NONE);
-        rows.load(0, 3);
-        CHECK.due("told(0, 0), still", rows.told(0, 0), 2);
-        CHECK.due("told(0, 1), still", rows.told(0, 1), 11);
-        CHECK.due("told(99, 1), still", rows.told(99, 1), 60);
-        CHECK.due("told(100, 0)", rows.told(100, 0), NONE);
-        CHECK.due("told(100, 1)", rows.told(100, 1), NONE);
-        CHECK.due("told(-1, 0)", rows.told(-1, 0), NONE);
-        CHECK.due("told(0, 2)", rows.told(0, 2), NONE);
-        CHECK.due("told(0, -1)", rows.told(0, -1), NONE);
-        CHECK.due("told(max, 0)", rows.told(Integer.MAX_VALUE, 0), NONE);
-        CHECK.due("told(min, 0)", rows.told(Integer.MIN_VALUE, 0), NONE);
+    private static void aRefusedOneIsNoLoad() {
+        TransitRows rows = Worlds.withMask(127);
+        rows.skip(0, 50, true);
+        CHECK.due("a day left out", rows.load(0, 50), 0);
+        CHECK.due("no such route", rows.load(1, 60), 0);
+        CHECK.due("the first, on a day before", rows.load(0, 49), 1);
+        CHECK.due("on that day", rows.load(0, 49), 0);
+        CHECK.due("the second", rows.load(0, 51), 2);
     }
 }

@@ -2,6 +2,14 @@
 final class Worlds {
     static final int EVERY_DAY = 127;
 
+    /** The slips of withEveryState, whose copies have the same numbers. */
+    static final int WAITING = 1;
+    static final int LOADED = 2;
+    static final int ARRIVED = 3;
+    static final int LOST = 4;
+    static final int WRONG = 5;
+    static final int BACK = 6;
+
     private Worlds() {
     }
 
@@ -21,9 +29,56 @@ final class Worlds {
         return rows;
     }
 
+    /** As withRoute, of no duration, and each copy has a slip with its own number that is to go on day 1. */
+    static TransitRows withWaiting(int room, int many) {
+        TransitRows rows = withRoute(0, room, many);
+        for (int copy = 1; copy <= many; copy++) {
+            rows.send(copy, 1, 0);
+        }
+        return rows;
+    }
+
+    /** Places 0 and 1, and route 0 from 0 to 1 on the days of a mask, without a copy. */
+    static TransitRows withMask(int mask) {
+        TransitRows rows = withPlaces(2);
+        rows.route(0, 1, mask, 0, 9);
+        return rows;
+    }
+
+    /**
+     * A slip in each state, from 0 to 1 of three places, by the one route, that takes a day. WAITING is to go on day
+     * 100, LOADED was loaded on day 50 in load 2, and LOST, ARRIVED and WRONG on day 1 in load 1; ARRIVED and WRONG
+     * (to place 2) came on day 2. Copy 7 has no slip and stands at place 0.
+     */
+    static TransitRows withEveryState() {
+        TransitRows rows = withPlaces(3);
+        rows.route(0, 1, EVERY_DAY, 1, 9);
+        addCopies(rows, 0, 7);
+        rows.send(WAITING, 1, 99);
+        rows.send(LOADED, 1, 49);
+        rows.send(ARRIVED, 1, 0);
+        rows.send(LOST, 1, 0);
+        rows.send(WRONG, 1, 0);
+        rows.send(BACK, 1, 0);
+        rows.back(BACK);
+        rows.load(0, 1);
+        rows.arrive(ARRIVED, 1, 2);
+        rows.arrive(WRONG, 2, 2);
+        rows.lost(17);
+        rows.load(0, 50);
+        return rows;
+    }
+
     static void addCopies(TransitRows rows, int home, int many) {
         for (int i = 0; i < many; i++) {
             rows.copy(home);
+        }
+    }
+
+    /** Slips by the one route of withRoute, all of copy 1 and all BACK. */
+    static void addSlips(TransitRows rows, int many) {
+        for (int i = 0; i < many; i++) {
+            rows.back(rows.send(1, 1, 0));
         }
     }
 }
