@@ -19,6 +19,7 @@ public final class MarksTest {
         refusedForACopyToCome(name, mark);
         theOtherMarkStays(name, mark, other);
         whileItHasASlip(name, mark);
+        itStaysMarked(name, mark);
     }
 
     /** "or not (at first): what it was" */
@@ -71,6 +72,29 @@ public final class MarksTest {
         for (int copy = 1; copy <= 6; copy++) {
             CHECK.due(name + ": on", mark.set(rows, copy, true), false);
             CHECK.due(name + ": off", mark.set(rows, copy, false), true);
+        }
+    }
+
+    /** "what it was": what becomes of the copy leaves its mark as it was told last */
+    private static void itStaysMarked(String name, Mark mark) {
+        for (boolean on : new boolean[] {true, false}) {
+            TransitRows rows = Worlds.withRoute(0, 9, 2);
+            mark.set(rows, 1, on);
+            mark.set(rows, 2, on);
+            rows.send(1, 1, 0);
+            CHECK.due(name + " when WAITING", mark.set(rows, 1, on), on);
+            rows.back(1);
+            CHECK.due(name + " when BACK", mark.set(rows, 1, on), on);
+            rows.send(1, 1, 0);
+            rows.send(2, 1, 0);
+            rows.load(0, 1);
+            CHECK.due(name + " when LOADED", mark.set(rows, 1, on), on);
+            rows.lost(60);
+            CHECK.due(name + " when LOST", mark.set(rows, 1, on), on);
+            rows.arrive(2, 1, 61);
+            CHECK.due(name + " when ARRIVED", mark.set(rows, 1, on), on);
+            rows.arrive(3, 0, 61);
+            CHECK.due(name + " when WRONG", mark.set(rows, 2, on), on);
         }
     }
 }

@@ -48,7 +48,7 @@ public final class RefusedTest {
     private static void refusedEach(String call, int want, IntFunction<ToIntFunction<TransitRows>> made, int... numbers) {
         for (int number : numbers) {
             String text = call.replace("#", String.valueOf(number));
-            refused(text, want, RefusedTest::busy, made.apply(number));
+            refused(text, want, Worlds::busy, made.apply(number));
         }
     }
 
@@ -74,32 +74,6 @@ public final class RefusedTest {
         void add(boolean answer) {
             answers.add(number(answer));
         }
-    }
-
-    /**
-     * A slip in each state, as in Worlds; place 3, that is closed; days left out; slip 8 in the bin from 0 to 1, of
-     * copy 9, that is PRIORITY and FLOATS; slips 7 and 9 from 0 to 3, both TOLD as 1, then 7 LOADED and 9 TOLD as 2.
-     */
-    private static TransitRows busy() {
-        TransitRows rows = Worlds.withEveryState();
-        rows.place();
-        rows.route(0, 1, 1 << 3, 0, 1);
-        rows.route(1, 2, 127, 2, 1);
-        rows.route(0, 3, 127, 0, 1);
-        Worlds.addCopies(rows, 0, 3);
-        rows.priority(9, true);
-        rows.floats(9, true);
-        rows.skip(0, 101, true);
-        rows.skip(1, 108, true);
-        rows.send(8, 3, 99);
-        rows.send(9, 1, 100);
-        rows.send(10, 3, 99);
-        rows.open(3, false);
-        rows.load(3, 100);
-        rows.open(3, true);
-        rows.load(3, 101);
-        rows.open(3, false);
-        return rows;
     }
 
     private static void askAll(Log log) {
@@ -238,38 +212,38 @@ public final class RefusedTest {
     }
 
     private static void nothingToChange() {
-        refused("skip(0, 101, true)", 0, RefusedTest::busy, rows -> number(rows.skip(0, 101, true)));
-        refused("skip(0, 102, false)", 0, RefusedTest::busy, rows -> number(rows.skip(0, 102, false)));
-        refused("lost(16)", 0, RefusedTest::busy, rows -> rows.lost(16));
+        refused("skip(0, 101, true)", 0, Worlds::busy, rows -> number(rows.skip(0, 101, true)));
+        refused("skip(0, 102, false)", 0, Worlds::busy, rows -> number(rows.skip(0, 102, false)));
+        refused("lost(16)", 0, Worlds::busy, rows -> rows.lost(16));
     }
 
     private static void sending() {
         for (int copy : new int[] {Worlds.WAITING, Worlds.LOADED, Worlds.LOST}) {
-            refused("send(" + copy + ", 2, 100): it has a slip", 0, RefusedTest::busy, rows -> rows.send(copy, 2, 100));
+            refused("send(" + copy + ", 2, 100): it has a slip", 0, Worlds::busy, rows -> rows.send(copy, 2, 100));
         }
-        refused("send(7, 0, 100): it stands there", 0, RefusedTest::busy, rows -> rows.send(7, 0, 100));
-        refused("send(7, 3, 100)", TransitRows.CLOSED, RefusedTest::busy, rows -> rows.send(7, 3, 100));
-        refused("send(7, 2, 100)", TransitRows.NO_ROUTE, RefusedTest::busy, rows -> rows.send(7, 2, 100));
-        refused("send(7, 1, 99999)", TransitRows.NO_ROUTE, RefusedTest::busy, rows -> rows.send(7, 1, LAST_DAY));
+        refused("send(7, 0, 100): it stands there", 0, Worlds::busy, rows -> rows.send(7, 0, 100));
+        refused("send(7, 3, 100)", TransitRows.CLOSED, Worlds::busy, rows -> rows.send(7, 3, 100));
+        refused("send(7, 2, 100)", TransitRows.NO_ROUTE, Worlds::busy, rows -> rows.send(7, 2, 100));
+        refused("send(7, 1, 99999)", TransitRows.NO_ROUTE, Worlds::busy, rows -> rows.send(7, 1, LAST_DAY));
     }
 
     private static void loading() {
-        refused("load(1, 100): not by its mask", 0, RefusedTest::busy, rows -> rows.load(1, 100));
-        refused("load(0, 101): left out", 0, RefusedTest::busy, rows -> rows.load(0, 101));
-        refused("load(3, 101): it had a load", 0, RefusedTest::busy, rows -> rows.load(3, 101));
-        refused("load(3, 100): it had a later load", 0, RefusedTest::busy, rows -> rows.load(3, 100));
+        refused("load(1, 100): not by its mask", 0, Worlds::busy, rows -> rows.load(1, 100));
+        refused("load(0, 101): left out", 0, Worlds::busy, rows -> rows.load(0, 101));
+        refused("load(3, 101): it had a load", 0, Worlds::busy, rows -> rows.load(3, 101));
+        refused("load(3, 100): it had a later load", 0, Worlds::busy, rows -> rows.load(3, 100));
     }
 
     private static void slipsInTheWrongState() {
         for (int slip : new int[] {Worlds.LOADED, Worlds.ARRIVED, Worlds.LOST, Worlds.WRONG, Worlds.BACK}) {
-            refused("back(" + slip + ")", 0, RefusedTest::busy, rows -> rows.back(slip));
+            refused("back(" + slip + ")", 0, Worlds::busy, rows -> rows.back(slip));
         }
         for (int slip : new int[] {Worlds.WAITING, Worlds.ARRIVED, Worlds.WRONG, Worlds.BACK}) {
-            refused("arrive(" + slip + ", 1, 110)", 0, RefusedTest::busy, rows -> rows.arrive(slip, 1, 110));
-            refused("arrive(" + slip + ", 3, 110)", 0, RefusedTest::busy, rows -> rows.arrive(slip, 3, 110));
+            refused("arrive(" + slip + ", 1, 110)", 0, Worlds::busy, rows -> rows.arrive(slip, 1, 110));
+            refused("arrive(" + slip + ", 3, 110)", 0, Worlds::busy, rows -> rows.arrive(slip, 3, 110));
         }
-        refused("arrive(2, 1, 49)", 0, RefusedTest::busy, rows -> rows.arrive(Worlds.LOADED, 1, 49));
-        refused("arrive(4, 1, 0)", 0, RefusedTest::busy, rows -> rows.arrive(Worlds.LOST, 1, 0));
+        refused("arrive(2, 1, 49)", 0, Worlds::busy, rows -> rows.arrive(Worlds.LOADED, 1, 49));
+        refused("arrive(4, 1, 0)", 0, Worlds::busy, rows -> rows.arrive(Worlds.LOST, 1, 0));
     }
 
     private static void asking() {
@@ -281,7 +255,7 @@ public final class RefusedTest {
         refusedEach("bin(0, 1, #)", 0, n -> rows -> rows.bin(0, 1, n), Numbers.beyond(0, 1));
         refusedEach("loaded(1, #)", 0, n -> rows -> rows.loaded(1, n), Numbers.beyond(0, 2));
         refusedEach("missing(1, #)", 0, n -> rows -> rows.missing(1, n), Numbers.beyond(0, 0));
-        refused("statistics(1, 0, 3)", -9, RefusedTest::busy, RefusedTest::averageOfNone);
+        refused("statistics(1, 0, 3)", -9, Worlds::busy, RefusedTest::averageOfNone);
     }
 
     private static int averageOfNone(TransitRows rows) {
@@ -294,7 +268,7 @@ public final class RefusedTest {
 
     private static Supplier<TransitRows> busyAnd(int times, Consumer<TransitRows> more) {
         return () -> {
-            TransitRows rows = busy();
+            TransitRows rows = Worlds.busy();
             for (int i = 0; i < times; i++) {
                 more.accept(rows);
             }
@@ -303,15 +277,15 @@ public final class RefusedTest {
     }
 
     private static TransitRows withSixtyLeftOut() {
-        TransitRows rows = busy();
-        for (int day = 200; day < 258; day++) {
+        TransitRows rows = Worlds.busy();
+        for (int day = 200; day < 257; day++) {
             rows.skip(2, day, true);
         }
         return rows;
     }
 
     private static TransitRows withSixtyLoads() {
-        TransitRows rows = busy();
+        TransitRows rows = Worlds.busy();
         for (int day = 0; day < 56; day++) {
             rows.load(2, day);
         }
@@ -319,7 +293,7 @@ public final class RefusedTest {
     }
 
     private static TransitRows withAllSlips() {
-        TransitRows rows = busy();
+        TransitRows rows = Worlds.busy();
         for (int slip = 10; slip <= 150; slip++) {
             rows.send(7, 1, 0);
             rows.back(slip);

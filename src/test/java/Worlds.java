@@ -69,6 +69,34 @@ final class Worlds {
         return rows;
     }
 
+    /**
+     * As withEveryState, and more: place 3, that is closed; days left out, also that on which slips 1 and 8 are to go;
+     * slip 8 in the bin from 0 to 1, of copy 9, that is PRIORITY and FLOATS; slips 7 and 9 from 0 to 3, both TOLD as 1
+     * in load 3, then 7 LOADED in load 4 and 9 TOLD as 2.
+     */
+    static TransitRows busy() {
+        TransitRows rows = withEveryState();
+        rows.place();
+        rows.route(0, 1, 1 << 3, 0, 1);
+        rows.route(1, 2, EVERY_DAY, 2, 1);
+        rows.route(0, 3, EVERY_DAY, 0, 1);
+        addCopies(rows, 0, 3);
+        rows.priority(9, true);
+        rows.floats(9, true);
+        rows.skip(0, 101, true);
+        rows.skip(1, 108, true);
+        rows.send(8, 3, 99);
+        rows.send(9, 1, 100);
+        rows.send(10, 3, 99);
+        rows.skip(0, 100, true);
+        rows.open(3, false);
+        rows.load(3, 100);
+        rows.open(3, true);
+        rows.load(3, 101);
+        rows.open(3, false);
+        return rows;
+    }
+
     static void addCopies(TransitRows rows, int home, int many) {
         for (int i = 0; i < many; i++) {
             rows.copy(home);
